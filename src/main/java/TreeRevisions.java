@@ -315,7 +315,7 @@ public final class TreeRevisions {
             boolean hasFirst = p % 5 != 0;
             boolean hasSecond = p / 5 % 5 != 0;
             boolean hasThird = p / 25 != 0;
-            return (hasFirst || !hasSecond && !hasThird) && (hasSecond || !hasThird);
+            return (hasFirst || !hasSecond) && (hasSecond || !hasThird);
         }
 
         static int depthOf(int p) {

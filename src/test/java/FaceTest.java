@@ -19,7 +19,7 @@ public final class FaceTest {
             "int locate(int, int, int)", "int representation(int, int)", "int representations()",
             "int stored(int, int)");
     private static final String[] LEFT_OUT = {"->", "::", "synchronized", "assert ", "finally", "throw ",
-        "try ", "catch", "System.", "Thread", "hashCode", "toString", "package ", "static {", "var ", "lambda"};
+        "try ", "catch", "System.", "Thread", "hashCode", "toString", "package ", "static {", "var "};
 
     private static int wrong = 0;
 

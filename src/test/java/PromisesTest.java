@@ -416,6 +416,15 @@ public final class PromisesTest {
         x.remove(1, path(2));
         commit(x, 1, 5);
         due("made by the youngest alone", x.created(5, path(2)), 4);
+        x.begin(0);
+        x.begin(1);
+        x.make(0, path(4, 4), false);
+        x.make(0, path(4, 3), false);
+        commit(x, 0, 6);
+        x.make(1, path(4, 4), false);
+        due("at the last name", x.commit(1), -2 - path(4, 4));
+        x.make(1, path(4, 3), true);
+        due("at the first of two", x.commit(1), -2 - path(4, 3));
     }
 
     private static void failedMergeUndoesAll() {
@@ -754,6 +763,7 @@ public final class PromisesTest {
         due("the longest piece, not the best", sizeOn("abcd0def", "abcdef"), 5);
         due("longer than the base", sizeOn("111", "11111"), 5);
         due("zeros", sizeOn("0000", "000"), 2);
+        due("a piece ends with the text", sizeOn("120", "12"), 3);
         due("shared by the end of both", sizeOn("f0", "f00"), 4);
         due("twelve others", sizeOn("111111111111", "222222222222"), 13);
     }
