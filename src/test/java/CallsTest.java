@@ -148,6 +148,20 @@ public final class CallsTest {
         refused("on a node of the transaction", x.directory(0, 2));
     }
 
+    private static void makeInAFullTree() {
+        Store x = new Store();
+        x.begin(0);
+        int made = 0;
+        for (int p = 1; p < 125; p++) {
+            made += x.make(0, p, true) ? 1 : 0;
+        }
+        due("all good paths but the root", made, 84);
+        for (int p = 0; p <= 125; p++) {
+            refused("make at " + p, x.make(0, p, true));
+            refused("copy to " + p, x.copy(0, 0, 0, p));
+        }
+    }
+
     private static void removeWhenNotOpen() {
         Store x = open();
         for (int t : NO_TRANSACTIONS) {
@@ -689,6 +703,7 @@ public final class CallsTest {
         Sentences.test("p is not good or 0", CallsTest::makeAtTheRoot);
         Sentences.test("the parent is no directory there", CallsTest::makeWithoutADirectoryAbove);
         Sentences.test("or there is a node at p", CallsTest::makeOnANode);
+        Sentences.test("or there is a node at p", CallsTest::makeInAFullTree);
         Sentences.chapter("Promise 4");
         Sentences.test("Refused (false) when t is not open", CallsTest::removeWhenNotOpen);
         Sentences.test("or p is 0", CallsTest::removeTheRoot);

@@ -1,3 +1,5 @@
+import java.util.Arrays;
+
 /** The boundary cases of the chapter 'Terms' on committing and merging. */
 public final class CommittingTest {
     private static final int NONE = Store.NONE;
@@ -233,21 +235,57 @@ public final class CommittingTest {
         due("none is left", x.commit(1), 3);
     }
 
-    private static void conflictAnswersForEveryPath() {
-        for (int[] names : new int[][] {{4}, {1, 4}, {1, 1, 4}, {4, 4, 4}}) {
-            Store x = new Store();
-            x.begin(0);
-            for (int depth = 1; depth < names.length; depth++) {
-                x.make(0, depth == 1 ? at(names[0]) : at(names[0], names[1]), true);
+    private static void conflictAtEveryPath() {
+        for (int first = 1; first <= 4; first++) {
+            conflictAtOnly(first);
+            for (int second = 1; second <= 4; second++) {
+                conflictAtOnly(first, second);
+                for (int third = 1; third <= 4; third++) {
+                    conflictAtOnly(first, second, third);
+                }
             }
-            due("base", x.commit(0), 1);
-            x.begin(0);
-            x.begin(1);
-            x.file(0, names);
-            x.file(1, names);
-            due("commit of the first", x.commit(0), 2);
-            due("conflict", x.commit(1), -2 - at(names));
         }
+    }
+
+    /** Both sides make a file there, in directories that are otherwise empty. */
+    private static void conflictAtOnly(int... names) {
+        Store x = new Store();
+        x.begin(0);
+        for (int depth = 1; depth < names.length; depth++) {
+            done("make what is above", x.directory(0, Arrays.copyOf(names, depth)));
+        }
+        due("base", x.commit(0), 1);
+        x.begin(0);
+        x.begin(1);
+        done("make", x.file(0, names));
+        done("make", x.file(1, names));
+        due("commit of the first", x.commit(0), 2);
+        due("conflict", x.commit(1), -2 - at(names));
+    }
+
+    private static void mergingEndsWithTheFirstConflict() {
+        Store x = two();
+        x.remove(0, at(1, 1));
+        x.write(0, at(2), "5");
+        x.file(0, 4);
+        x.write(1, at(1, 1, 1), "6");
+        x.write(1, at(2), "6");
+        conflict(x, at(1, 1));
+        due("a second conflict is not come to", x.commit(1), -2 - at(1, 1));
+        due("what is behind is not taken over", x.kind(-2, at(4)), 0);
+        due("what is below is not looked at", x.text(-2, at(1, 1, 1)), 6);
+    }
+
+    private static void theRootIsMerged() {
+        Store x = two();
+        x.file(0, 4);
+        x.remove(1, at(2));
+        merged(x);
+        due("of the youngest", x.kind(3, at(4)), 2);
+        due("own", x.kind(3, at(2)), 0);
+        due("created", x.created(3, 0), 3);
+        due("count", x.count(3, 0), 3);
+        due("line", x.line(3, 0), 0);
     }
 
     private static void countIsOneMoreThanTheYoungests() {
@@ -465,7 +503,9 @@ public final class CommittingTest {
         Sentences.test(conflict, CommittingTest::conflictOfBothMade);
         Sentences.test(conflict, CommittingTest::conflictOfBothWritten);
         Sentences.test(conflict, CommittingTest::conflictOfRemovedAndChanged);
-        Sentences.test(conflict, CommittingTest::conflictAnswersForEveryPath);
+        Sentences.test(conflict, CommittingTest::conflictAtEveryPath);
+        Sentences.test("and merging ends", CommittingTest::mergingEndsWithTheFirstConflict);
+        Sentences.test("The root is merged if its nodes are three different ones", CommittingTest::theRootIsMerged);
         Sentences.test("At the end the directory at p in Y becomes the predecessor of that in T, whose count becomes "
                 + "one more than that one's.", CommittingTest::countIsOneMoreThanTheYoungests);
         Sentences.test("if Y's is the same as B's, nothing is to be done",

@@ -265,7 +265,6 @@ public final class LocateTest {
     public static void main(String[] args) {
         Sentences.chapter("Promise 16");
         Sentences.test("as long as r is not a", LocateTest::itself);
-        Sentences.test("as long as r is not a", LocateTest::overAllRevisions);
         Sentences.test("if p or a path above it has in r a node with a source", LocateTest::pItselfOrAPathAbove);
         Sentences.test("and the creation r", LocateTest::onlyWithTheCreationOfThatRevision);
         Sentences.test("and the creation r", LocateTest::copyOfAMerge);
@@ -276,6 +275,7 @@ public final class LocateTest {
         Sentences.test("revision s has at p' no node of the line that p has in r, the answer is NONE",
                 LocateTest::noNodeOfTheLineInTheSource);
         Sentences.test("if p is not q", LocateTest::qItselfNeedsNoLine);
+        Sentences.test("r becomes s, and p becomes p'", LocateTest::overAllRevisions);
         Sentences.test("if then r is less than a, the answer is NONE", LocateTest::theSourceIsBeforeA);
         Sentences.test("if revision r - 1 has at p a node of the line that p has in r, r becomes r - 1",
                 LocateTest::sameLineInTheRevisionBefore);

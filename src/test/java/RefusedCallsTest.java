@@ -9,10 +9,19 @@ public final class RefusedCallsTest {
     private static final int NONE = Store.NONE;
     private static final int LEAST = Integer.MIN_VALUE;
     private static final int MOST = Integer.MAX_VALUE;
+    private static final int[] NOT_OPEN = {LEAST, -1, 2, 3, MOST};
+
+    /** Where nothing can be made: not good, the root, below a file or nothing, on a node. */
+    private static final int[] NO_PLACE = {LEAST, -1, 0, 5, 25, 26, 30, 125, MOST, at(2, 1), at(1, 2, 1), at(3, 4, 1),
+        at(1), at(1, 1), at(1, 1, 1), at(2), at(3), at(3, 1), at(3, 1, 1), at(4, 1)};
 
     /** Calls on a store; the answer is that of the last. */
     private interface Calls {
         long on(Store x);
+    }
+
+    private interface Change {
+        boolean on(Store x);
     }
 
     /** Makes stores that all had the same calls. */
@@ -34,10 +43,10 @@ public final class RefusedCallsTest {
     }
 
     /**
-     * Revisions 0 to 2. Transaction 0 is open on revision 2 and has changes of every sort, 1 is open on
-     * revision 1 and has a conflict at 1/1/1 behind what could be merged, 2 is not open.
+     * Revisions 0 to 2. Transaction 0 is open on revision 2 without a change, 1 is open on revision 1 and
+     * has a conflict at 1/1/1 behind what could be merged, 2 is not open.
      */
-    private static Store busy() {
+    private static Store calm() {
         Store x = Store.sample();
         done(x.begin(1));
         done(x.file(1, 1, 1, 2));
@@ -49,6 +58,12 @@ public final class RefusedCallsTest {
         done(x.write(0, at(1, 1, 1), "abcdef"));
         done(x.commit(0) == 2);
         done(x.begin(0));
+        return x;
+    }
+
+    /** The same with changes of every sort in transaction 0. */
+    private static Store busy() {
+        Store x = calm();
         done(x.write(0, at(2), "55"));
         done(x.directory(0, 4));
         done(x.remove(0, at(1, 2)));
@@ -148,73 +163,72 @@ public final class RefusedCallsTest {
         Sentences.due("the calls that follow " + name, goOn(asked), goOn(state.fresh()));
     }
 
-    private static long number(boolean answer) {
-        return answer ? 1 : 0;
+    /** The call is refused, whether the transaction has touched what it would touch or not. */
+    private static void refused(String name, Change change) {
+        Calls call = x -> change.on(x) ? 1 : 0;
+        changesNothing(name + " (calm)", RefusedCallsTest::calm, call, 0);
+        changesNothing(name + " (busy)", RefusedCallsTest::busy, call, 0);
     }
 
     private static void begins() {
         for (int t : new int[] {LEAST, -1, 3, MOST, 0, 1}) {
-            changesNothing("begin(" + t + ")", RefusedCallsTest::busy, x -> number(x.begin(t)), 0);
+            refused("begin(" + t + ")", x -> x.begin(t));
         }
     }
 
     private static void makes() {
-        for (int t : new int[] {LEAST, -1, 2, 3, MOST}) {
-            changesNothing("make in " + t, RefusedCallsTest::busy, x -> number(x.make(t, at(3, 4), true)), 0);
+        for (int t : NOT_OPEN) {
+            refused("make in " + t, x -> x.make(t, at(3, 4), true));
         }
-        int[] paths = {LEAST, -1, 0, 5, 25, 26, 30, 125, MOST, at(1, 2, 1), at(2, 1), at(3, 4, 1), at(1), at(2),
-            at(4)};
-        for (int p : paths) {
-            changesNothing("make a directory at " + p, RefusedCallsTest::busy, x -> number(x.make(0, p, true)), 0);
-            changesNothing("make a file at " + p, RefusedCallsTest::busy, x -> number(x.make(0, p, false)), 0);
+        for (int p : NO_PLACE) {
+            refused("make a directory at " + p, x -> x.make(0, p, true));
+            refused("make a file at " + p, x -> x.make(0, p, false));
         }
     }
 
     private static void removes() {
-        for (int t : new int[] {LEAST, -1, 2, 3, MOST}) {
-            changesNothing("remove in " + t, RefusedCallsTest::busy, x -> number(x.remove(t, at(1))), 0);
+        for (int t : NOT_OPEN) {
+            refused("remove in " + t, x -> x.remove(t, at(1)));
         }
-        for (int p : new int[] {LEAST, -1, 0, 5, 25, 26, 30, 125, MOST, at(1, 2), at(2, 1), at(3, 4)}) {
-            changesNothing("remove " + p, RefusedCallsTest::busy, x -> number(x.remove(0, p)), 0);
+        for (int p : new int[] {LEAST, -1, 0, 5, 25, 26, 30, 125, MOST, at(2, 1), at(3, 4), at(1, 2, 1), at(4, 2)}) {
+            refused("remove " + p, x -> x.remove(0, p));
         }
     }
 
     private static void copies() {
-        for (int t : new int[] {LEAST, -1, 2, 3, MOST}) {
-            changesNothing("copy in " + t, RefusedCallsTest::busy, x -> number(x.copy(t, 1, at(2), at(3, 4))), 0);
+        for (int t : NOT_OPEN) {
+            refused("copy in " + t, x -> x.copy(t, 1, at(2), at(3, 4)));
         }
         for (int r : new int[] {LEAST, -1, 3, MOST}) {
-            changesNothing("copy from revision " + r, RefusedCallsTest::busy, x -> number(x.copy(0, r, at(2), at(3, 4))), 0);
+            refused("copy from revision " + r, x -> x.copy(0, r, at(2), at(3, 4)));
         }
         for (int f : new int[] {LEAST, -1, 5, 26, 125, MOST, at(4), at(3, 1)}) {
-            changesNothing("copy from " + f, RefusedCallsTest::busy, x -> number(x.copy(0, 1, f, at(3, 4))), 0);
+            refused("copy from " + f, x -> x.copy(0, 1, f, at(3, 4)));
         }
-        for (int g : new int[] {LEAST, -1, 0, 5, 26, 125, MOST, at(2, 1), at(3, 4, 1), at(1), at(4, 1)}) {
-            changesNothing("copy to " + g, RefusedCallsTest::busy, x -> number(x.copy(0, 1, at(2), g)), 0);
+        for (int g : NO_PLACE) {
+            refused("copy to " + g, x -> x.copy(0, 1, at(2), g));
         }
-        changesNothing("copy too deep", RefusedCallsTest::busy, x -> number(x.copy(0, 1, at(1), at(3, 4))), 0);
-        changesNothing("copy of the root too deep", RefusedCallsTest::busy, x -> number(x.copy(0, 2, 0, at(3, 4))), 0);
+        refused("copy too deep", x -> x.copy(0, 1, at(1), at(3, 4)));
+        refused("copy of the root too deep", x -> x.copy(0, 2, 0, at(3, 4)));
     }
 
     private static void writes() {
-        for (int t : new int[] {LEAST, -1, 2, 3, MOST}) {
-            changesNothing("write in " + t, RefusedCallsTest::busy, x -> number(x.write(t, at(1, 1, 1), 7, 1)), 0);
+        for (int t : NOT_OPEN) {
+            refused("write in " + t, x -> x.write(t, at(1, 1, 1), 7, 1));
         }
-        for (int p : new int[] {LEAST, -1, 0, 5, 26, 125, MOST, at(1), at(1, 2), at(2, 1)}) {
-            changesNothing("write to " + p, RefusedCallsTest::busy, x -> number(x.write(0, p, 7, 1)), 0);
+        for (int p : new int[] {LEAST, -1, 0, 5, 26, 125, MOST, at(1), at(1, 1), at(3, 1), at(2, 1), at(4)}) {
+            refused("write to " + p, x -> x.write(0, p, 7, 1));
         }
         for (int n : new int[] {LEAST, -1, 13, MOST}) {
-            changesNothing("write of " + n, RefusedCallsTest::busy, x -> number(x.write(0, at(1, 1, 1), 7, n)), 0);
+            refused("write of " + n, x -> x.write(0, at(1, 1, 1), 7, n));
+            refused("write of " + n + " deeper", x -> x.write(0, at(3, 1, 1), 7, n));
         }
     }
 
     private static void commits() {
-        for (int t : new int[] {LEAST, -1, 2, 3, MOST}) {
+        for (int t : NOT_OPEN) {
             changesNothing("commit of " + t, RefusedCallsTest::busy, x -> x.commit(t), NONE);
         }
-        changesNothing("commit with a conflict", RefusedCallsTest::busy, x -> x.commit(1), -2 - at(1, 1, 1));
-        changesNothing("two commits with a conflict", RefusedCallsTest::busy, x -> x.commit(1) + x.commit(1),
-                -4 - 2 * at(1, 1, 1));
         for (int t = 0; t <= 2; t++) {
             int which = t;
             changesNothing("commit of " + t + " with 16 revisions", RefusedCallsTest::complete,
@@ -222,9 +236,16 @@ public final class RefusedCallsTest {
         }
     }
 
+    private static void commitsWithAConflict() {
+        int conflict = -2 - at(1, 1, 1);
+        changesNothing("a conflict (calm)", RefusedCallsTest::calm, x -> x.commit(1), conflict);
+        changesNothing("a conflict (busy)", RefusedCallsTest::busy, x -> x.commit(1), conflict);
+        changesNothing("a conflict twice", RefusedCallsTest::busy, x -> x.commit(1) + x.commit(1), 2 * conflict);
+    }
+
     private static void aborts() {
-        for (int t : new int[] {LEAST, -1, 2, 3, MOST}) {
-            changesNothing("abort " + t, RefusedCallsTest::busy, x -> number(x.abort(t)), 0);
+        for (int t : NOT_OPEN) {
+            refused("abort " + t, x -> x.abort(t));
         }
     }
 
@@ -257,6 +278,8 @@ public final class RefusedCallsTest {
         Sentences.test(sentence, RefusedCallsTest::writes);
         Sentences.chapter("Terms, of commit");
         Sentences.test(sentence, RefusedCallsTest::commits);
+        Sentences.test("the transaction stays open, as it was before the commit",
+                RefusedCallsTest::commitsWithAConflict);
         Sentences.chapter("Terms, of abort");
         Sentences.test(sentence, RefusedCallsTest::aborts);
         Sentences.chapter("Terms, of what only asks");

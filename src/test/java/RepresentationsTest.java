@@ -176,6 +176,14 @@ public final class RepresentationsTest {
         }
     }
 
+    private static void chainIsOneMore() {
+        Store x = twoFiles(14, 1, 1);
+        int[] chains = {1, 2, 2, 3, 2, 3, 3, 4, 2, 3, 3, 4, 3, 4, 4};
+        for (int c = 0; c <= 14; c++) {
+            due("chain for count " + c, x.stored(x.representation(1 + c, 1), 1), chains[c]);
+        }
+    }
+
     private static void noBaseWithCountNought() {
         Store x = Store.sample();
         x.begin(0);
@@ -266,9 +274,19 @@ public final class RepresentationsTest {
         due("the base cut to three", sizeOn("1234", "123"), 2);
         due("a piece of eleven", sizeOn("123456789abc", "123456789ab"), 2);
         due("a piece of twelve is all there can be", sizeOn("111111111111", "11111111111"), 2);
+        due("its first digit differs", sizeOn("512", "912"), 4);
+        due("its middle digit differs", sizeOn("152", "192"), 4);
+        due("its last digit differs", sizeOn("125", "129"), 4);
+        due("the base goes on where the text ends", sizeOn("120", "12"), 3);
         due("zeros behind the base's end are no piece", sizeOn("12", "1200"), 5);
         due("zeros behind both ends are no piece", sizeOn("f0", "f00"), 4);
         due("three zeros", sizeOn("0000", "000"), 2);
+    }
+
+    private static void digitsThatDifferInOneBit() {
+        for (String text : new String[] {"111", "222", "444", "888"}) {
+            due("text " + text, sizeOn("000", text), 4);
+        }
     }
 
     private static void theLongestIsPassed() {
@@ -320,11 +338,13 @@ public final class RepresentationsTest {
         Sentences.test(represented, RepresentationsTest::noBaseOnAnAncestorWithoutOne);
         Sentences.test(represented, RepresentationsTest::noBaseOnAnEmptyOne);
         Sentences.test(allowed, RepresentationsTest::chainJustShortEnough);
+        Sentences.test("its chain is then 1 more than that of the base", RepresentationsTest::chainIsOneMore);
         Sentences.test("Otherwise it has no base, and the chain is 1.", RepresentationsTest::chainJustTooLong);
     }
 
     private static void sizeSentences() {
         Sentences.test("of 3 digits or more that stand at that place", RepresentationsTest::piecesOfThreeOrMore);
+        Sentences.test("of 3 digits or more that stand at that place", RepresentationsTest::digitsThatDifferInOneBit);
         Sentences.test("the longest is passed and costs 2", RepresentationsTest::theLongestIsPassed);
         Sentences.test("where there is none, the digit is passed, and costs 1, and 1 more if the digit before was not "
                 + "passed so (or it is the first)", RepresentationsTest::digitsThatArePassed);

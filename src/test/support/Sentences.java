@@ -48,7 +48,7 @@ final class Sentences {
     }
 
     static void end() {
-        System.out.println(tests + " sentences tested, " + wrong + " answers are not as due");
+        System.out.println(tests + " tests of sentences, " + wrong + " answers are not as due");
         if (wrong != 0) {
             System.exit(1);
         }
