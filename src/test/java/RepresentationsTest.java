@@ -278,6 +278,7 @@ public final class RepresentationsTest {
         due("its middle digit differs", sizeOn("152", "192"), 4);
         due("its last digit differs", sizeOn("125", "129"), 4);
         due("the base goes on where the text ends", sizeOn("120", "12"), 3);
+        due("a zero in front of the base's first digit is of no piece", sizeOn("abc", "0abc"), 4);
         due("zeros behind the base's end are no piece", sizeOn("12", "1200"), 5);
         due("zeros behind both ends are no piece", sizeOn("f0", "f00"), 4);
         due("three zeros", sizeOn("0000", "000"), 2);
